@@ -17,6 +17,7 @@ public final class PromiseTest {
         test.promise1NewObject();
         test.promise2Register();
         test.promise2RegisterRefused();
+        test.promise2RegisterAllTargets();
         test.promise3Bindings();
         test.promise4Binding();
         test.promise5CallForksToDevices();
@@ -168,6 +169,20 @@ public final class PromiseTest {
         checks.fails("both", ARGUMENT, () -> forker.register(0, 9, 11, 5, 5));
     }
 
+    private void promise2RegisterAllTargets() {
+        CallForker forker = new CallForker();
+        for (int target = 15; target >= 0; target--) {
+            checks.same("at most three at once", forker.register(0, target, 1, 3, 0), Math.min(3, 16 - target));
+            forker.pass(1);
+        }
+        checks.same("the last ones", row(forker, 0), "101 1");
+        checks.fails("behind them", INDEX, () -> forker.binding(0, 2));
+        forker.call(0);
+        checks.same("devices", devices(forker, 0), "1 0");
+        checks.same("the first one again", forker.register(0, 15, 1, 3, 1), 3);
+        checks.same("in its first order", row(forker, 0), "1501 101 1");
+    }
+
     private void promise3Bindings() {
         CallForker forker = new CallForker();
         forker.register(3, 1, 0, 5, 0);
@@ -200,6 +215,8 @@ public final class PromiseTest {
         for (int wrong : new int[] {-1, 6, 16, Integer.MIN_VALUE, Integer.MAX_VALUE}) {
             checks.fails("binding place", INDEX, () -> forker.binding(3, wrong));
         }
+        CallForker zero = withDevices(1, 1);
+        checks.fails("binding behind device 0", INDEX, () -> zero.binding(0, 2));
         for (int wrong : NO_USERS) {
             checks.fails("binding user", ARGUMENT, () -> forker.binding(wrong, 0));
             checks.fails("binding user and place", ARGUMENT, () -> forker.binding(wrong, -1));
@@ -297,6 +314,12 @@ public final class PromiseTest {
         states("without the device behind them", forker, 0,
                 "100 482 482 482 483 483 483 482 483 482 483 483");
         checks.fails("one left out", STATE, () -> forker.answer(0, 1, 180));
+        checks.same("a full call ends", forker.pass(10), 1);
+        finals("of a full call", forker, 0, 408);
+        checks.same("too much of a full call", forker.answer(0, 0, 200), 408);
+        forker.call(0);
+        checks.same("cancel a full call", forker.cancel(1), 1);
+        finals("of a full call cancelled", forker, 1, 487);
     }
 
     private void promise5CallRefused() {
