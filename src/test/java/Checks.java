@@ -1,4 +1,6 @@
 import java.util.function.IntSupplier;
+import java.util.function.Supplier;
+import java.util.function.ToIntFunction;
 
 /** Counts checks that hold and fail, and tells of each that fails. */
 final class Checks {
@@ -20,6 +22,37 @@ final class Checks {
 
     void fails(String what, Class<? extends RuntimeException> due, IntSupplier call) {
         same(what, outcome(call), "throws." + due.getSimpleName());
+    }
+
+    void states(String what, CallForker forker, int call, String due) {
+        same("the states " + what, Forkers.states(forker, call), due);
+    }
+
+    void devices(String what, CallForker forker, int call, String due) {
+        same("the devices " + what, Forkers.devices(forker, call), due);
+    }
+
+    void row(String what, CallForker forker, int user, String due) {
+        same("the bindings " + what, Forkers.row(forker, user), due);
+    }
+
+    void finals(String what, CallForker forker, int call, int due) {
+        same("finalOf " + what, outcome(() -> forker.finalOf(call)), String.valueOf(due));
+        same("finalBySorting " + what, outcome(() -> forker.finalBySorting(call)), String.valueOf(due));
+    }
+
+    /**
+     * Checks that a call throws and changes nothing: a forker made alike, without that call, tells the same,
+     * also when time has gone by.
+     */
+    void refused(String what, Class<? extends RuntimeException> due, Supplier<CallForker> made,
+            ToIntFunction<CallForker> call) {
+        CallForker asked = made.get();
+        CallForker left = made.get();
+        fails(what, due, () -> call.applyAsInt(asked));
+        same("after what throws, " + what, Forkers.all(asked), Forkers.all(left));
+        same("the end after what throws, " + what, asked.pass(10), left.pass(10));
+        same("later after what throws, " + what, Forkers.all(asked), Forkers.all(left));
     }
 
     /** What a call comes to: its answer, or throws. and the name of what it throws. */

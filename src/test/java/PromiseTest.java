@@ -48,49 +48,6 @@ public final class PromiseTest {
         test.checks.end();
     }
 
-    /** A forker whose user 0 has the devices 0, 1, .. with these qualities, for long. */
-    private static CallForker withDevices(int... qualities) {
-        CallForker forker = new CallForker();
-        for (int device = 0; device < qualities.length; device++) {
-            forker.register(0, device, qualities[device], 1000, 0);
-        }
-        return forker;
-    }
-
-    /** The states of a call's branches, in their order. */
-    private static String states(CallForker forker, int call) {
-        StringBuilder told = new StringBuilder();
-        for (int branch = 0; branch < forker.branches(call); branch++) {
-            told.append(branch == 0 ? "" : " ").append(forker.state(call, branch));
-        }
-        return told.toString();
-    }
-
-    private static String devices(CallForker forker, int call) {
-        StringBuilder told = new StringBuilder();
-        for (int branch = 0; branch < forker.branches(call); branch++) {
-            told.append(branch == 0 ? "" : " ").append(forker.device(call, branch));
-        }
-        return told.toString();
-    }
-
-    private static String row(CallForker forker, int user) {
-        StringBuilder told = new StringBuilder();
-        for (int place = 0; place < forker.bindings(user); place++) {
-            told.append(place == 0 ? "" : " ").append(forker.binding(user, place));
-        }
-        return told.toString();
-    }
-
-    private void states(String what, CallForker forker, int call, String due) {
-        checks.same("the states " + what, states(forker, call), due);
-    }
-
-    private void finals(String what, CallForker forker, int call, int due) {
-        checks.same("finalOf " + what, forker.finalOf(call), due);
-        checks.same("finalBySorting " + what, forker.finalBySorting(call), due);
-    }
-
     private void promise1NewObject() {
         CallForker forker = new CallForker();
         checks.same("time", forker.time(), 0);
@@ -101,7 +58,7 @@ public final class PromiseTest {
         for (int device = 0; device < 10; device++) {
             checks.same("hungUp", forker.hungUp(device), 0);
         }
-        withDevices(1, 2).call(0);
+        Forkers.withDevices(1, 2).call(0);
         checks.same("calls beside another object", forker.calls(), 0);
         checks.same("bindings beside another object", forker.bindings(0), 0);
     }
@@ -112,28 +69,28 @@ public final class PromiseTest {
         checks.same("register greatest", forker.register(0, 15, 10, 1000, 10000), 2);
         checks.same("register for another", forker.register(5, 15, 10, 1000, 10000), 1);
         checks.same("anew", forker.register(0, 0, 7, 20, 1), 2);
-        checks.same("made anew in its place", row(forker, 0), "7 1510");
+        checks.same("made anew in its place", Forkers.row(forker, 0), "7 1510");
         checks.same("taken away", forker.register(0, 0, 7, 0, 2), 1);
-        checks.same("what is left", row(forker, 0), "1510");
+        checks.same("what is left", Forkers.row(forker, 0), "1510");
         checks.same("back again", forker.register(0, 0, 3, 4, 3), 2);
-        checks.same("in its first order", row(forker, 0), "3 1510");
+        checks.same("in its first order", Forkers.row(forker, 0), "3 1510");
         forker.pass(4);
         checks.same("expired", forker.bindings(0), 1);
         checks.same("after it expired", forker.register(0, 0, 2, 4, 5), 2);
-        checks.same("in its first order still", row(forker, 0), "2 1510");
+        checks.same("in its first order still", Forkers.row(forker, 0), "2 1510");
         checks.same("one never there for 0 ticks", forker.register(0, 4, 2, 0, 5), 2);
         checks.same("one later", forker.register(0, 5, 2, 9, 5), 3);
         checks.same("the one from before", forker.register(0, 4, 2, 9, 6), 4);
-        checks.same("ordered as first registered", row(forker, 0), "2 1510 402 502");
+        checks.same("ordered as first registered", Forkers.row(forker, 0), "2 1510 402 502");
         checks.same("others count expiry", forker.pass(4) + forker.register(0, 6, 0, 1, 0), 4);
         checks.same("longer than before", forker.register(0, 6, 0, 50, 1), 4);
         checks.same("shorter than before", forker.register(0, 6, 0, 2, 2), 4);
         forker.pass(2);
-        checks.same("the shorter time holds", row(forker, 0), "1510 402 502");
+        checks.same("the shorter time holds", Forkers.row(forker, 0), "1510 402 502");
     }
 
     private void promise2RegisterRefused() {
-        CallForker forker = withDevices(1, 1, 1, 1, 1);
+        CallForker forker = Forkers.withDevices(1, 1, 1, 1, 1);
         for (int wrong : NO_USERS) {
             checks.fails("register user", ARGUMENT, () -> forker.register(wrong, 0, 0, 1, 9));
         }
@@ -151,7 +108,7 @@ public final class PromiseTest {
         }
         checks.fails("the same sequence", STATE, () -> forker.register(0, 0, 0, 1, 0));
         checks.fails("the same sequence, to take away", STATE, () -> forker.register(0, 0, 0, 0, 0));
-        checks.same("nothing changed", row(forker, 0), "1 101 201 301 401");
+        checks.same("nothing changed", Forkers.row(forker, 0), "1 101 201 301 401");
         checks.same("a user and a device count alike", forker.register(0, 10, 1, 5, 5), 6);
         checks.fails("a less sequence", STATE, () -> forker.register(0, 10, 1, 5, 4));
         checks.fails("6 others", STATE, () -> forker.register(0, 9, 1, 5, 5));
@@ -165,7 +122,7 @@ public final class PromiseTest {
         checks.same("taken away", forker.register(0, 8, 2, 0, 6), 5);
         checks.fails("the sequence of one taken away", STATE, () -> forker.register(0, 8, 2, 5, 6));
         checks.same("what threw changed no sequence", forker.register(0, 10, 2, 5, 7), 6);
-        checks.same("the order", row(forker, 0), "1 101 201 301 401 1002");
+        checks.same("the order", Forkers.row(forker, 0), "1 101 201 301 401 1002");
         checks.fails("both", ARGUMENT, () -> forker.register(0, 9, 11, 5, 5));
     }
 
@@ -175,12 +132,12 @@ public final class PromiseTest {
             checks.same("at most three at once", forker.register(0, target, 1, 3, 0), Math.min(3, 16 - target));
             forker.pass(1);
         }
-        checks.same("the last ones", row(forker, 0), "101 1");
+        checks.same("the last ones", Forkers.row(forker, 0), "101 1");
         checks.fails("behind them", INDEX, () -> forker.binding(0, 2));
         forker.call(0);
-        checks.same("devices", devices(forker, 0), "1 0");
+        checks.same("devices", Forkers.devices(forker, 0), "1 0");
         checks.same("the first one again", forker.register(0, 15, 1, 3, 1), 3);
-        checks.same("in its first order", row(forker, 0), "1501 101 1");
+        checks.same("in its first order", Forkers.row(forker, 0), "1501 101 1");
     }
 
     private void promise3Bindings() {
@@ -215,7 +172,7 @@ public final class PromiseTest {
         for (int wrong : new int[] {-1, 6, 16, Integer.MIN_VALUE, Integer.MAX_VALUE}) {
             checks.fails("binding place", INDEX, () -> forker.binding(3, wrong));
         }
-        CallForker zero = withDevices(1, 1);
+        CallForker zero = Forkers.withDevices(1, 1);
         checks.fails("binding behind device 0", INDEX, () -> zero.binding(0, 2));
         for (int wrong : NO_USERS) {
             checks.fails("binding user", ARGUMENT, () -> forker.binding(wrong, 0));
@@ -224,37 +181,37 @@ public final class PromiseTest {
     }
 
     private void promise5CallForksToDevices() {
-        CallForker forker = withDevices(3, 9, 3, 9, 0);
+        CallForker forker = Forkers.withDevices(3, 9, 3, 9, 0);
         forker.register(1, 4, 10, 1000, 0);
         forker.register(1, 10, 6, 5, 0);
         forker.register(1, 3, 8, 1000, 0);
         checks.same("the first call", forker.call(0), 0);
-        states("of the greatest quality", forker, 0, "0 100 0 100 0");
+        checks.states("of the greatest quality", forker, 0, "0 100 0 100 0");
         checks.same("the second call", forker.call(1), 1);
-        checks.same("devices by a user", devices(forker, 1), "4 0 1 2 3");
-        states("with the quality of the first way", forker, 1, "100 0 0 0 0");
+        checks.same("devices by a user", Forkers.devices(forker, 1), "4 0 1 2 3");
+        checks.states("with the quality of the first way", forker, 1, "100 0 0 0 0");
         forker.answer(1, 4, 404);
-        states("of the user's quality together", forker, 1, "404 100 100 100 100");
+        checks.states("of the user's quality together", forker, 1, "404 100 100 100 100");
         forker.pass(5);
         checks.same("without the user", forker.call(1), 2);
-        checks.same("devices without the user", devices(forker, 2), "4 3");
+        checks.same("devices without the user", Forkers.devices(forker, 2), "4 3");
         checks.same("nobody there", forker.call(5), 3);
-        finals("of nobody", forker, 3, 480);
+        checks.finals("of nobody", forker, 3, 480);
         forker.register(5, 11, 1, 100, 0);
         forker.register(1, 4, 10, 0, 1);
         forker.register(1, 3, 10, 0, 1);
         checks.same("nobody behind a user", forker.call(5), 4);
         checks.same("no branches", forker.branches(4), 0);
-        finals("of nobody behind a user", forker, 4, 480);
+        checks.finals("of nobody behind a user", forker, 4, 480);
     }
 
     private void promise5CallGoesRound() {
         CallForker forker = new CallForker();
         forker.register(0, 10, 4, 100, 0);
         checks.same("to oneself", forker.call(0), 0);
-        checks.same("no device", devices(forker, 0), "-1");
-        states("to oneself", forker, 0, "482");
-        finals("to oneself", forker, 0, 482);
+        checks.same("no device", Forkers.devices(forker, 0), "-1");
+        checks.states("to oneself", forker, 0, "482");
+        checks.finals("to oneself", forker, 0, 482);
         forker.register(1, 12, 4, 100, 0);
         forker.register(1, 13, 5, 100, 0);
         forker.register(2, 13, 9, 100, 0);
@@ -262,11 +219,11 @@ public final class PromiseTest {
         forker.register(3, 7, 9, 100, 0);
         forker.register(3, 11, 9, 100, 0);
         forker.call(1);
-        checks.same("one user by two ways", devices(forker, 1), "7 -1 -1 -1");
-        states("round, in the group of the first way", forker, 1, "100 482 482 482");
+        checks.same("one user by two ways", Forkers.devices(forker, 1), "7 -1 -1 -1");
+        checks.states("round, in the group of the first way", forker, 1, "100 482 482 482");
         checks.same("not ended yet", forker.finalOf(1), -1);
         forker.pass(10);
-        finals("round and timed out", forker, 1, 408);
+        checks.finals("round and timed out", forker, 1, 408);
     }
 
     private void promise5CallGoesTooFar() {
@@ -278,15 +235,15 @@ public final class PromiseTest {
         forker.register(2, 10, 5, 100, 0);
         forker.register(2, 12, 5, 100, 0);
         forker.call(0);
-        checks.same("two users behind", devices(forker, 0), "-1 2 -1 -1 1 0");
-        states("too far, or round", forker, 0, "483 100 482 482 100 0");
+        checks.same("two users behind", Forkers.devices(forker, 0), "-1 2 -1 -1 1 0");
+        checks.states("too far, or round", forker, 0, "483 100 482 482 100 0");
         forker.call(3);
-        checks.same("one user behind", devices(forker, 1), "4 3");
-        states("one user behind", forker, 1, "100 0");
+        checks.same("one user behind", Forkers.devices(forker, 1), "4 3");
+        checks.states("one user behind", forker, 1, "100 0");
         forker.register(5, 13, 1, 100, 0);
         forker.call(5);
-        checks.same("just two users behind", devices(forker, 2), "-1 4 3");
-        states("round by the called one", forker, 2, "482 100 100");
+        checks.same("just two users behind", Forkers.devices(forker, 2), "-1 4 3");
+        checks.states("round by the called one", forker, 2, "482 100 100");
         forker.register(4, 10, 1, 100, 1);
         forker.register(5, 14, 1, 100, 1);
         forker.register(0, 0, 1, 0, 1);
@@ -294,8 +251,8 @@ public final class PromiseTest {
         forker.register(0, 13, 1, 100, 1);
         forker.register(5, 13, 1, 0, 1);
         forker.call(5);
-        checks.same("the third ends at once", devices(forker, 3), "-1 4 -1");
-        states("the third: round by the called one, too far", forker, 3, "482 100 483");
+        checks.same("the third ends at once", Forkers.devices(forker, 3), "-1 4 -1");
+        checks.states("the third: round by the called one, too far", forker, 3, "482 100 483");
     }
 
     private void promise5CallAtMostTwelveBranches() {
@@ -311,19 +268,19 @@ public final class PromiseTest {
         forker.call(0);
         checks.same("at most twelve", forker.branches(0), 12);
         checks.same("the first of them", forker.device(0, 0), 0);
-        states("without the device behind them", forker, 0,
+        checks.states("without the device behind them", forker, 0,
                 "100 482 482 482 483 483 483 482 483 482 483 483");
         checks.fails("one left out", STATE, () -> forker.answer(0, 1, 180));
         checks.same("a full call ends", forker.pass(10), 1);
-        finals("of a full call", forker, 0, 408);
+        checks.finals("of a full call", forker, 0, 408);
         checks.same("too much of a full call", forker.answer(0, 0, 200), 408);
         forker.call(0);
         checks.same("cancel a full call", forker.cancel(1), 1);
-        finals("of a full call cancelled", forker, 1, 487);
+        checks.finals("of a full call cancelled", forker, 1, 487);
     }
 
     private void promise5CallRefused() {
-        CallForker forker = withDevices(1);
+        CallForker forker = Forkers.withDevices(1);
         for (int wrong : NO_USERS) {
             checks.fails("call", ARGUMENT, () -> forker.call(wrong));
         }
@@ -336,70 +293,70 @@ public final class PromiseTest {
     }
 
     private void promise6AnswerRings() {
-        CallForker forker = withDevices(5, 5);
+        CallForker forker = Forkers.withDevices(5, 5);
         forker.call(0);
         checks.same("rings", forker.answer(0, 1, 180), -1);
         checks.same("rings again", forker.answer(0, 1, 180), -1);
-        states("of one that rings", forker, 0, "100 180");
+        checks.states("of one that rings", forker, 0, "100 180");
         checks.same("still open", forker.finalOf(0), -1);
         checks.same("answers when it rings", forker.answer(0, 1, 200), 200);
     }
 
     private void promise6AnswerAnswers() {
         for (int code : new int[] {200, 201, 299}) {
-            CallForker forker = withDevices(5, 6, 6, 6, 5);
+            CallForker forker = Forkers.withDevices(5, 6, 6, 6, 5);
             forker.call(0);
             forker.answer(0, 1, 404);
             forker.answer(0, 2, 180);
             checks.same("answers", forker.answer(0, 3, code), code);
-            states("of an answered call", forker, 0, "487 404 487 " + code + " 487");
-            finals("of an answered call", forker, 0, code);
+            checks.states("of an answered call", forker, 0, "487 404 487 " + code + " 487");
+            checks.finals("of an answered call", forker, 0, code);
             checks.same("answered", forker.answered(0), 3);
         }
-        CallForker last = withDevices(6, 5);
+        CallForker last = Forkers.withDevices(6, 5);
         last.call(0);
         last.answer(0, 0, 302);
         checks.same("a later group answers", last.answer(0, 1, 299), 299);
-        finals("of a later group", last, 0, 299);
+        checks.finals("of a later group", last, 0, 299);
     }
 
     private void promise6AnswerRefuses() {
         for (int code : new int[] {300, 302, 408, 487, 500, 599}) {
-            CallForker forker = withDevices(6, 5, 6, 4);
+            CallForker forker = Forkers.withDevices(6, 5, 6, 4);
             forker.call(0);
             checks.same("refuses", forker.answer(0, 0, code), -1);
-            states("of a refusal", forker, 0, code + " 0 100 0");
+            checks.states("of a refusal", forker, 0, code + " 0 100 0");
             checks.same("the other refuses", forker.answer(0, 2, 486), -1);
-            states("of the next group", forker, 0, code + " 100 486 0");
+            checks.states("of the next group", forker, 0, code + " 100 486 0");
             checks.same("the next refuses", forker.answer(0, 1, 487), -1);
-            states("of the last group", forker, 0, code + " 487 486 100");
+            checks.states("of the last group", forker, 0, code + " 487 486 100");
             int least = code == 487 ? 486 : Math.min(code, 486);
             checks.same("the last refuses", forker.answer(0, 3, 599), least);
-            finals("the least", forker, 0, least);
+            checks.finals("the least", forker, 0, least);
             checks.same("none answered", forker.answered(0), -1);
         }
-        CallForker forker = withDevices(6, 5);
+        CallForker forker = Forkers.withDevices(6, 5);
         forker.call(0);
         forker.answer(0, 0, 487);
         checks.same("all told 487", forker.answer(0, 1, 487), 487);
-        finals("all told 487", forker, 0, 487);
+        checks.finals("all told 487", forker, 0, 487);
     }
 
     private void promise6AnswerRefusesForAll() {
         for (int code : new int[] {600, 603, 699}) {
-            CallForker forker = withDevices(6, 6, 6, 4);
+            CallForker forker = Forkers.withDevices(6, 6, 6, 4);
             forker.call(0);
             forker.answer(0, 0, 300);
             forker.answer(0, 1, 180);
             checks.same("refuses for all", forker.answer(0, 2, code), code);
-            states("of a refusal for all", forker, 0, "300 487 " + code + " 487");
-            finals("of a refusal for all", forker, 0, code);
+            checks.states("of a refusal for all", forker, 0, "300 487 " + code + " 487");
+            checks.finals("of a refusal for all", forker, 0, code);
             checks.same("none answered", forker.answered(0), -1);
         }
     }
 
     private void promise6AnswerTooMuch() {
-        CallForker forker = withDevices(6, 6, 6, 6, 4, 3);
+        CallForker forker = Forkers.withDevices(6, 6, 6, 6, 4, 3);
         forker.call(0);
         forker.answer(0, 0, 408);
         checks.same("too much after 408 told", forker.answer(0, 0, 200), -1);
@@ -411,8 +368,8 @@ public final class PromiseTest {
         checks.same("time goes on", forker.pass(9), 0);
         checks.same("answers", forker.answer(0, 4, 222), 222);
         checks.same("too much after an answer", forker.answer(0, 3, 233), 222);
-        states("are as they were", forker, 0, "408 487 408 408 222 487");
-        finals("is as it was", forker, 0, 222);
+        checks.states("are as they were", forker, 0, "408 487 408 408 222 487");
+        checks.finals("is as it was", forker, 0, 222);
         checks.same("answered", forker.answered(0), 4);
         for (int device = 0; device < 6; device++) {
             checks.same("hung up", forker.hungUp(device), device < 4 ? 1 : 0);
@@ -431,7 +388,7 @@ public final class PromiseTest {
     }
 
     private void promise6AnswerRefused() {
-        CallForker forker = withDevices(6, 6, 6, 4);
+        CallForker forker = Forkers.withDevices(6, 6, 6, 4);
         forker.call(0);
         for (int wrong : NO_FIRST) {
             checks.fails("answer call", INDEX, () -> forker.answer(wrong, 0, 200));
@@ -452,7 +409,7 @@ public final class PromiseTest {
                 checks.fails("has ended with 408", STATE, () -> forker.answer(0, 1, code));
             }
         }
-        states("are as they were", forker, 0, "404 408 100 0");
+        checks.states("are as they were", forker, 0, "404 408 100 0");
         checks.same("none hung up", forker.hungUp(0) + forker.hungUp(1) + forker.hungUp(9), 0);
         forker.answer(0, 2, 200);
         checks.fails("the answered one again", STATE, () -> forker.answer(0, 2, 200));
@@ -473,20 +430,20 @@ public final class PromiseTest {
     }
 
     private void promise7Cancel() {
-        CallForker forker = withDevices(6, 6, 6, 4, 3);
+        CallForker forker = Forkers.withDevices(6, 6, 6, 4, 3);
         forker.call(0);
         forker.call(0);
         forker.answer(0, 0, 404);
         forker.answer(0, 1, 180);
         checks.same("cancel", forker.cancel(0), 4);
-        states("of a cancelled call", forker, 0, "404 487 487 487 487");
-        finals("of a cancelled call", forker, 0, 487);
-        states("of another call", forker, 1, "100 100 100 0 0");
+        checks.states("of a cancelled call", forker, 0, "404 487 487 487 487");
+        checks.finals("of a cancelled call", forker, 0, 487);
+        checks.states("of another call", forker, 1, "100 100 100 0 0");
         checks.same("none answered", forker.answered(0), -1);
         checks.fails("cancel again", STATE, () -> forker.cancel(0));
         forker.answer(1, 0, 200);
         checks.fails("cancel an answered call", STATE, () -> forker.cancel(1));
-        finals("of an answered call", forker, 1, 200);
+        checks.finals("of an answered call", forker, 1, 200);
         forker.call(3);
         checks.fails("cancel one of nobody", STATE, () -> forker.cancel(2));
         for (int wrong : new int[] {-1, 3, 20, Integer.MIN_VALUE, Integer.MAX_VALUE}) {
@@ -495,35 +452,35 @@ public final class PromiseTest {
         forker.call(0);
         forker.pass(20);
         checks.same("cancel in the last group", forker.cancel(3), 1);
-        states("of the last group", forker, 3, "408 408 408 408 487");
-        finals("cancelled late", forker, 3, 487);
+        checks.states("of the last group", forker, 3, "408 408 408 408 487");
+        checks.finals("cancelled late", forker, 3, 487);
         checks.same("nothing to end", forker.pass(100), 0);
     }
 
     private void promise8Pass() {
-        CallForker forker = withDevices(6, 4, 4);
+        CallForker forker = Forkers.withDevices(6, 4, 4);
         forker.pass(3);
         forker.call(0);
         checks.same("nine ticks", forker.pass(9), 0);
-        states("after nine ticks", forker, 0, "100 0 0");
+        checks.states("after nine ticks", forker, 0, "100 0 0");
         checks.same("the tenth", forker.pass(1), 0);
-        states("after ten ticks", forker, 0, "408 100 100");
+        checks.states("after ten ticks", forker, 0, "408 100 100");
         forker.pass(4);
         forker.answer(0, 1, 180);
         forker.pass(5);
-        states("before the ring time is over", forker, 0, "408 180 100");
+        checks.states("before the ring time is over", forker, 0, "408 180 100");
         checks.same("the last tick", forker.pass(1), 1);
-        states("after the ring time", forker, 0, "408 408 408");
-        finals("of a call that nobody answered", forker, 0, 408);
+        checks.states("after the ring time", forker, 0, "408 408 408");
+        checks.finals("of a call that nobody answered", forker, 0, 408);
         checks.same("ended once", forker.pass(100), 0);
         forker.call(0);
         forker.pass(5);
         forker.answer(1, 0, 404);
         checks.same("the ring time of the group's start", forker.pass(9), 0);
-        states("before the second ring time is over", forker, 1, "404 100 100");
+        checks.states("before the second ring time is over", forker, 1, "404 100 100");
         forker.answer(1, 1, 404);
         checks.same("over", forker.pass(1), 1);
-        finals("of refusals and time", forker, 1, 404);
+        checks.finals("of refusals and time", forker, 1, 404);
         for (int wrong : new int[] {0, -1, 101, Integer.MIN_VALUE, Integer.MAX_VALUE}) {
             checks.fails("pass", ARGUMENT, () -> forker.pass(wrong));
         }
@@ -543,22 +500,22 @@ public final class PromiseTest {
         forker.register(1, 11, 6, 100, 0);
         forker.register(1, 1, 0, 100, 0);
         forker.call(0);
-        states("past a group that has ended", forker, 0, "482 100");
+        checks.states("past a group that has ended", forker, 0, "482 100");
         forker.call(1);
-        states("a group with one that has ended", forker, 1, "482 100 482 0");
+        checks.states("a group with one that has ended", forker, 1, "482 100 482 0");
         checks.same("the first ends", forker.pass(10), 1);
-        states("past one in the middle", forker, 1, "482 408 482 100");
+        checks.states("past one in the middle", forker, 1, "482 408 482 100");
         checks.same("quality 0 is the last", forker.pass(10), 1);
-        finals("the least of the ends", forker, 1, 408);
+        checks.finals("the least of the ends", forker, 1, 408);
         forker.call(1);
         forker.answer(2, 0, 500);
-        states("past one in the middle, by a refusal", forker, 2, "482 500 482 100");
+        checks.states("past one in the middle, by a refusal", forker, 2, "482 500 482 100");
         checks.same("482 is the least", forker.answer(2, 1, 500), 482);
-        finals("482 is the least", forker, 2, 482);
+        checks.finals("482 is the least", forker, 2, 482);
     }
 
     private void promise8PassLooksAtAllCalls() {
-        CallForker forker = withDevices(5);
+        CallForker forker = Forkers.withDevices(5);
         for (int call = 0; call < 10; call++) {
             forker.call(0);
             forker.pass(1);
@@ -590,7 +547,7 @@ public final class PromiseTest {
     }
 
     private void promise10Calls() {
-        CallForker forker = withDevices(5);
+        CallForker forker = Forkers.withDevices(5);
         for (int call = 0; call < 20; call++) {
             checks.same("calls", forker.calls(), call);
             forker.call(call % 2);
@@ -602,7 +559,7 @@ public final class PromiseTest {
     }
 
     private void promise11FinalOf() {
-        CallForker forker = withDevices(5, 5, 5);
+        CallForker forker = Forkers.withDevices(5, 5, 5);
         checks.fails("finalOf before", INDEX, () -> forker.finalOf(0));
         forker.call(0);
         checks.same("open", forker.finalOf(0), -1);
@@ -617,7 +574,7 @@ public final class PromiseTest {
     }
 
     private void promise12FinalBySorting() {
-        CallForker forker = withDevices(5, 5, 5, 5);
+        CallForker forker = Forkers.withDevices(5, 5, 5, 5);
         checks.fails("finalBySorting before", INDEX, () -> forker.finalBySorting(0));
         forker.call(0);
         checks.fails("open", STATE, () -> forker.finalBySorting(0));
@@ -634,14 +591,14 @@ public final class PromiseTest {
             for (int device = 0; device < 4; device++) {
                 forker.answer(call, device, run[device]);
             }
-            finals("of ends in any order", forker, call, run[4]);
+            checks.finals("of ends in any order", forker, call, run[4]);
         }
         checks.same("asked again", forker.finalBySorting(1), 404);
-        states("asking changes nothing", forker, 1, "503 404 487 500");
+        checks.states("asking changes nothing", forker, 1, "503 404 487 500");
     }
 
     private void promise13Branches() {
-        CallForker forker = withDevices(1, 2, 3, 4);
+        CallForker forker = Forkers.withDevices(1, 2, 3, 4);
         checks.fails("branches before", INDEX, () -> forker.branches(0));
         forker.call(0);
         checks.same("branches", forker.branches(0), 4);
@@ -658,7 +615,7 @@ public final class PromiseTest {
         forker.register(2, 0, 9, 100, 0);
         forker.call(2);
         checks.same("one device once", forker.branches(2), 5);
-        states("with the quality that came first", forker, 2, "100 100 100 100 100");
+        checks.states("with the quality that came first", forker, 2, "100 100 100 100 100");
     }
 
     private void promise14Device() {
@@ -668,7 +625,7 @@ public final class PromiseTest {
         forker.register(0, 10, 2, 100, 0);
         forker.register(0, 0, 3, 100, 0);
         forker.call(0);
-        checks.same("devices", devices(forker, 0), "9 -1 0");
+        checks.same("devices", Forkers.devices(forker, 0), "9 -1 0");
         for (int wrong : NO_FIRST) {
             checks.fails("device call", INDEX, () -> forker.device(wrong, 0));
         }
@@ -680,7 +637,7 @@ public final class PromiseTest {
     }
 
     private void promise15State() {
-        CallForker forker = withDevices(5, 4);
+        CallForker forker = Forkers.withDevices(5, 4);
         checks.fails("state before", INDEX, () -> forker.state(0, 0));
         forker.call(0);
         checks.same("tried", forker.state(0, 0), 100);
@@ -699,7 +656,7 @@ public final class PromiseTest {
     }
 
     private void promise16Answered() {
-        CallForker forker = withDevices(5, 4, 5);
+        CallForker forker = Forkers.withDevices(5, 4, 5);
         checks.fails("answered before", INDEX, () -> forker.answered(0));
         forker.call(0);
         checks.same("none yet", forker.answered(0), -1);
@@ -722,7 +679,7 @@ public final class PromiseTest {
     }
 
     private void promise17HungUp() {
-        CallForker forker = withDevices(5, 5);
+        CallForker forker = Forkers.withDevices(5, 5);
         for (int call = 0; call < 20; call++) {
             forker.call(0);
             forker.answer(call, call % 2, 200);
